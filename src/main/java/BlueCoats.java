@@ -5,7 +5,6 @@ public final class BlueCoats {
     public static final int NONE = -1;
 
     private static final int NOT_SO_MANY = -2;
-    private static final int TAPE_LENGTH = 300;
     private static final int FED_AT_ONCE = 20;
 
     private static final int TURN = 0;
@@ -16,10 +15,8 @@ public final class BlueCoats {
     private static final int IN = 1;
     private static final int BOUND = 2;
 
-    private final byte[] tape;
-    private int taped;
-    private final Statutes law;
     private final Reader reader;
+    private final Statutes law;
     private final Givers givers;
     private final Children children;
     private final Wardrobe wardrobe;
@@ -28,10 +25,8 @@ public final class BlueCoats {
     private int years;
 
     public BlueCoats() {
-        tape = new byte[TAPE_LENGTH];
-        taped = 0;
+        reader = new Reader();
         law = new Statutes();
-        reader = new Reader(tape);
         givers = new Givers();
         children = new Children();
         wardrobe = new Wardrobe();
@@ -41,31 +36,21 @@ public final class BlueCoats {
     }
 
     public int feed(int a, int b, int c, int d, int e) {
-        if (taped + FED_AT_ONCE > TAPE_LENGTH) {
+        if (reader.taped + FED_AT_ONCE > Reader.TAPE_LENGTH) {
             return NONE;
         }
-        putOnTape(a);
-        putOnTape(b);
-        putOnTape(c);
-        putOnTape(d);
-        putOnTape(e);
-        return taped;
-    }
-
-    private void putOnTape(int four) {
-        for (int shift = 24; shift >= 0; shift -= 8) {
-            if (taped < TAPE_LENGTH) {
-                tape[taped] = (byte) (four >>> shift);
-                taped++;
-            }
-        }
+        reader.append(a);
+        reader.append(b);
+        reader.append(c);
+        reader.append(d);
+        reader.append(e);
+        return reader.taped;
     }
 
     public int statutes(int n) {
-        if (n < 0 || n > taped) {
+        if (n < 0 || n > reader.taped) {
             return NOT_SO_MANY;
         }
-        taped = 0;
         int lines = reader.read(n);
         if (lines != NONE) {
             law.takeOver(reader.draft);
@@ -384,8 +369,10 @@ public final class BlueCoats {
         }
     }
 
-    /** Reads a text as statutes, up to its first fault. */
+    /** The tape, and how its text is read as statutes, up to the first fault. */
     private static final class Reader {
+        static final int TAPE_LENGTH = 300;
+
         private static final int END = 0;
         private static final int WORD = 1;
         private static final int NUMBER = 2;
@@ -409,8 +396,9 @@ public final class BlueCoats {
         final Statutes draft = new Statutes();
         int fault = 0;
         int faultPlace = NONE;
+        int taped;
 
-        private final byte[] text;
+        private final byte[] tape = new byte[TAPE_LENGTH];
         private int length;
         private int kind;
         private int start;
@@ -418,13 +406,20 @@ public final class BlueCoats {
         private int value;
         private int told;
 
-        Reader(byte[] text) {
-            this.text = text;
+        /** Four bytes more, the highest first. */
+        void append(int four) {
+            for (int shift = 24; shift >= 0; shift -= 8) {
+                if (taped < TAPE_LENGTH) {
+                    tape[taped] = (byte) (four >>> shift);
+                    taped++;
+                }
+            }
         }
 
-        /** How many lines the text's first n bytes are, or NONE with a fault. */
+        /** How many lines the tape's first n bytes are, or NONE with a fault; the tape is empty then. */
         int read(int n) {
-            length = Math.min(n, text.length);
+            length = Math.min(n, taped);
+            taped = 0;
             end = 0;
             told = 0;
             fault = 0;
@@ -433,40 +428,43 @@ public final class BlueCoats {
             advance();
             int lines = 0;
             while (kind != END && fault == 0 && lines < length) {
-                readLine();
+                readRest(begunLine());
+                endLine();
                 lines++;
             }
             return fault == 0 ? lines : NONE;
         }
 
         private void blame(int what) {
-            if (fault == 0) {
-                fault = what;
-                faultPlace = start;
-            }
+            fault = what;
+            faultPlace = start;
         }
 
-        private void readLine() {
+        /** The line whose first word stands here; NONE with a fault. */
+        private int begunLine() {
             int line = lineNamed();
             if (line == NONE) {
                 blame(MISPLACED);
-                return;
+                return NONE;
             }
             if ((told & (1 << line)) != 0) {
                 blame(TOLD_ALREADY);
-                return;
+                return NONE;
             }
             told |= 1 << line;
             advance();
-            readRest(line);
+            return line;
+        }
+
+        private void endLine() {
             if (fault != 0) {
                 return;
             }
-            if (kind != STOP) {
+            if (kind == STOP) {
+                advance();
+            } else {
                 blame(MISPLACED);
-                return;
             }
-            advance();
         }
 
         private void readRest(int line) {
@@ -486,8 +484,10 @@ public final class BlueCoats {
                 case SPARE_LINE:
                     draft.spare = readNumber(0, 9);
                     break;
-                default:
+                case PLACES_LINE:
                     draft.places = readNumber(1, 8);
+                    break;
+                default:
                     break;
             }
         }
@@ -606,7 +606,7 @@ public final class BlueCoats {
         }
 
         private int signAt(int place) {
-            return place >= 0 && place < text.length ? text[place] & 255 : 0;
+            return place >= 0 && place < length ? tape[place] & 255 : 0;
         }
 
         private static boolean isBlank(int sign) {

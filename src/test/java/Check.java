@@ -60,6 +60,53 @@ final class Check {
         return school.statutes(text.length());
     }
 
+    /** A new school whose statutes are the text. */
+    static BlueCoats school(String text) {
+        BlueCoats school = new BlueCoats();
+        statutes(school, text);
+        return school;
+    }
+
+    /**
+     * All that can be seen of a school without changing it, one answer behind the other. It asks
+     * for what is there alone, so that an object's 512 calls are enough for several pictures.
+     */
+    static String picture(BlueCoats school) {
+        StringBuilder text = new StringBuilder("counts");
+        for (int what = 0; what < 8; what++) {
+            text.append(' ').append(school.count(what));
+        }
+        text.append(", fault ").append(school.fault(0)).append(' ').append(school.fault(1));
+        for (int child = 0; look(school, child, 0) != NO_CHILD; child++) {
+            text.append(", child");
+            for (int what = 0; what < 6; what++) {
+                text.append(' ').append(look(school, child, what));
+            }
+        }
+        for (int coat = 0; school.coat(coat, 0) != BlueCoats.NONE; coat++) {
+            text.append(", coat");
+            for (int what = 0; what < 4; what++) {
+                text.append(' ').append(school.coat(coat, what));
+            }
+        }
+        text.append(", owed");
+        for (int end = 0; end < 6; end++) {
+            text.append(' ').append(school.owed(0, end));
+        }
+        for (int legacy = 0; school.owed(1, legacy) != BlueCoats.NONE; legacy++) {
+            text.append(" from ").append(school.owed(1, legacy));
+        }
+        return text.append(" short ").append(school.owed(2, 0)).append(" proof ").append(school.owed(3, 0)).toString();
+    }
+
+    static void same(String what, String want, String got) {
+        checked++;
+        if (!got.equals(want)) {
+            wrong++;
+            System.out.println(what + ":\n  it was " + want + "\n  and is " + got);
+        }
+    }
+
     static int word(byte[] bytes, int at) {
         int word = 0;
         for (int i = at; i < at + 4; i++) {

@@ -38,11 +38,8 @@ public final class PromisesTest {
         Check.end();
     }
 
-    /** A school whose statutes are the text. */
     private static BlueCoats school(String text) {
-        BlueCoats school = new BlueCoats();
-        Check.statutes(school, text);
-        return school;
+        return Check.school(text);
     }
 
     private static void due(String what, long want, long got) {
